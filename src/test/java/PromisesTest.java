@@ -416,6 +416,11 @@ public final class PromisesTest {
         for (int k = 0; k < 3; k++) {
             dueFinding(x, "kept land " + k, x.on(k), NOTHING);
         }
+        write(x, 3, "h011h022h033h044" + " ".repeat(48) + "b155g166n277s298");
+        due("a land of 80 signs", x.land(3), 8);
+        due("its last house", figure(x, 7, 2), 9);
+        write(x, 3, "h011" + " ".repeat(76));
+        due("80 signs with blanks at the end", x.land(3), 1);
         write(x, 3, "");
         due("a land without houses", x.land(3), 0);
         dueAsked(x, "nothing is left of the old one", x.off(), 1, 0);
