@@ -1267,6 +1267,8 @@ public final class SpoonCensus {
     /** All rows of mouths that the houses of a province can have, by what would be counted. */
     private static final class Ways {
         private static final int HOUSES = 5, FIGURES = 10, TOP = 50;
+        // below each way's sum of mouths, also where that is taken with a minus
+        private static final int UNREACHED = -HOUSES * FIGURES;
         private final int[] houses = new int[HOUSES];
         private final int[][] countedOf = new int[HOUSES][FIGURES];
         // ahead[i][n]: ways of the houses before place i to be counted as n; behind: of those from i on
@@ -1375,7 +1377,7 @@ public final class SpoonCensus {
         private int greatest(int n, int times) {
             Arrays.fill(extremes[0], 0);
             for (int i = 0; i < size; i++) {
-                Arrays.fill(extremes[i + 1], Integer.MIN_VALUE);
+                Arrays.fill(extremes[i + 1], UNREACHED);
                 raise(i, times);
             }
             return n <= TOP ? extremes[size][n] : 0;

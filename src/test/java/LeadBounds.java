@@ -62,6 +62,41 @@ final class LeadBounds extends Boundary {
         finds(row(0, 0, 0, 0, 0, 0, 0, 0, 10), call + "(0, 0) of the eighth", x -> of.on(x, 0, 0), UNLIKE);
     }
 
+    // ---- which rows
+
+    private interface Leading {
+        long on(SpoonCensus x, int r, int bites);
+    }
+
+    /** One spoon and a mouth that fits it: by each row as spoons, each as mouths. */
+    private static void dueByEachRow(String name, Leading call, long want) {
+        for (int r = 0; r <= 5; r++) {
+            for (int bites = 0; bites <= 5; bites++) {
+                SpoonCensus x = told(after(row(r, 3), row(bites, 4)));
+                due(name + "(" + r + ", " + bites + ")", call.on(x, r, bites), want);
+            }
+        }
+    }
+
+    static void promise39RowsAre0To5() {
+        dueByEachRow("leads", (x, r, bites) -> x.leads(r, bites) + 10 * x.upper(), 11);
+    }
+
+    static void promise40RowsAre0To5() {
+        dueByEachRow("led", (x, r, bites) -> x.led(r, bites), 1);
+    }
+
+    static void promise41RowsAre0To5() {
+        for (int to = 0; to <= 5; to++) {
+            int third = to;
+            dueByEachRow("lead to " + to + ", ", (x, r, bites) -> x.lead(r, bites, third) + x.at(third, 0) + x.asked(), 2);
+        }
+    }
+
+    static void promise42RowsAre0To5() {
+        dueByEachRow("most", (x, r, bites) -> x.most(r, bites), 1);
+    }
+
     // ---- leads
 
     static void promise39Refused() {

@@ -207,6 +207,16 @@ final class RowBounds extends Boundary {
         dueRow(x, 1, 3, 4, 1);
     }
 
+    static void promise06RowsAre0To5() {
+        for (int r = 0; r <= 5; r++) {
+            for (int to = 0; to <= 5; to++) {
+                SpoonCensus x = told(after(row(to, 6, 7), row(r, 8, 9)));
+                due("copy(" + r + ", 1, " + to + ", 0, 1)", x.copy(r, 1, to, 0, 1), 1);
+                dueRow(x, to, 9, r == to ? 9 : 7);
+            }
+        }
+    }
+
     static void promise06NotSoManyThere() {
         finds(TWO_ROWS, "from one place too far on", x -> x.copy(0, 3, 1, 0, 3), BEYOND);
         finds(TWO_ROWS, "to one place too far on", x -> x.copy(0, 0, 1, 1, 3), BEYOND);
@@ -304,6 +314,13 @@ final class RowBounds extends Boundary {
     static void promise07OfOnePlaceAndOfSixty() {
         asks(row(2, -7), "of one", x -> x.mean(2), 1, -7);
         asks(FULL_ROW, "of 101 to 160", x -> x.mean(2), 1, 130);
+    }
+
+    static void promise07RowsAre0To5() {
+        for (int r = 0; r <= 5; r++) {
+            int row = r;
+            asks(row(row, 3, 7), "mean(" + r + ")", x -> x.mean(row), 1, 5);
+        }
     }
 
     static void promise07SumsBeyondAnInt() {
